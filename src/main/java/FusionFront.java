@@ -71,6 +71,7 @@ public final class FusionFront {
     private static final int OPS_FULL = 6;
     private static final int TAKEN = 7;
     private static final int AT_END = 8;
+    private static final int[] NO_UNUSED = {0, 0, 0, 0, 0, 0, 0, 0, 0};
 
     private static final int CANNOT_STAND = 1;
     private static final int OUT_OF_RANGE = 2;
@@ -335,16 +336,7 @@ public final class FusionFront {
     }
 
     public int mainCause() {
-        int main = NONE;
-        int most = 0;
-        for (int cause = 1; cause <= CAUSES; cause++) {
-            int many = front.tally.unused[cause];
-            if (many > most) {
-                most = many;
-                main = cause;
-            }
-        }
-        return main;
+        return front.tally.mostUnusedSince(NO_UNUSED);
     }
 
     public int decoded(int back) throws NoSuchElementException {
@@ -428,8 +420,8 @@ public final class FusionFront {
     }
 
     public int set(int what, int value) throws IllegalArgumentException {
-        int setting = what == 2 ? LANES : what == 6 ? RATE : what == 7 ? LOOP : NONE;
-        if (setting == NONE) {
+        int setting = what - FIRST_SETTING;
+        if (setting != LANES && setting != RATE && setting != LOOP) {
             throw new IllegalArgumentException("no setting that can be set");
         }
         if (!isAllowed(setting, value)) {
@@ -609,16 +601,7 @@ public final class FusionFront {
         }
         ahead.copyFrom(front);
         ahead.decodeFor(cycles);
-        int main = NONE;
-        int most = 0;
-        for (int cause = 1; cause <= CAUSES; cause++) {
-            int many = ahead.tally.unused[cause] - front.tally.unused[cause];
-            if (many > most) {
-                most = many;
-                main = cause;
-            }
-        }
-        return main;
+        return ahead.tally.mostUnusedSince(front.tally.unused);
     }
 
     public int ruleGain(int first, int second, int cycles) throws IllegalArgumentException {
@@ -1304,6 +1287,20 @@ public final class FusionFront {
             if (cause >= 1 && cause <= CAUSES) {
                 unused[cause] += lanes;
             }
+        }
+
+        /** The cause for which most lanes stayed unused since they were so many as before tells; NONE if none did. */
+        int mostUnusedSince(int[] before) {
+            int main = NONE;
+            int most = 0;
+            for (int cause = 1; cause <= CAUSES && cause < before.length; cause++) {
+                int many = unused[cause] - before[cause];
+                if (many > most) {
+                    most = many;
+                    main = cause;
+                }
+            }
+            return main;
         }
 
         void copyFrom(Tally other) {
