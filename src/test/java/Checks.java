@@ -42,19 +42,22 @@ final class Checks {
         }
     }
 
+    /** Twenty bytes from an index on, as feed takes them; zeros stand behind the last one. */
+    static int[] words(byte[] bytes, int at) {
+        int[] words = new int[5];
+        for (int index = 0; index < 20; index++) {
+            int sign = at + index < bytes.length ? bytes[at + index] & 255 : 0;
+            words[index / 4] = words[index / 4] << 8 | sign;
+        }
+        return words;
+    }
+
     static void feed(FusionFront front, byte[] bytes) {
-        int before = 0;
         for (int at = 0; at < bytes.length; at += 20) {
-            int[] words = new int[5];
-            for (int index = 0; index < 20; index++) {
-                int sign = at + index < bytes.length ? bytes[at + index] & 255 : 0;
-                words[index / 4] = words[index / 4] << 8 | sign;
-            }
-            before = front.feed(words[0], words[1], words[2], words[3], words[4]);
+            int[] words = words(bytes, at);
+            front.feed(words[0], words[1], words[2], words[3], words[4]);
         }
-        if (bytes.length == 0 || before != FusionFront.NONE) {
-            front.truncate(bytes.length);
-        }
+        holds("the text fits", front.truncate(bytes.length));
     }
 
     static int parse(FusionFront front, String text) {

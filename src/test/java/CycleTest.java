@@ -212,6 +212,10 @@ public final class CycleTest {
         front.run(40);
         Checks.holds("agrees", front.agrees());
         Checks.same("all wrong", front.count(15), front.times(0));
+        front = Checks.made("lanes 2;jump ahead 1;nop;add;");
+        front.run(3);
+        Checks.same("the jump at the start", front.decoded(0), 2);
+        Checks.same("its lane", front.bubbles(7), 1);
         front = Checks.made("lanes 6;nop;jump ahead 1;add;mov;");
         front.run(2);
         bubbles("taken", front, 6, 0, 0, 0, 0, 0, 4, 0);

@@ -55,6 +55,7 @@ public final class ForecastTest {
         FusionFront done = Checks.made("lanes 3;nop;");
         done.run(9);
         Checks.same("the end", done.bubblesIn(500, 8), 1500);
+        Checks.same("the end next", done.nextBubbles(8), 3);
         Checks.same("main of what comes", done.mainCauseIn(1), 8);
         FusionFront tie = Checks.made("lanes 2;nop;add;mov;");
         // Cycle 1: 2 for cause 1; cycle 3: 1 and cycle 4: 2 for cause 8.
@@ -93,6 +94,7 @@ public final class ForecastTest {
         Checks.same("nine in nine cycles", front.bestLanes(10), 1);
         Checks.same("lanes stay", front.count(2), 5);
         FusionFront rates = Checks.made("lanes 6;ops 4;rate 2;loop 9;nop;jump back 1;");
+        Checks.same("nothing comes", rates.bestRate(1), 1);
         rates.run(20);
         Checks.same("as many as fit", rates.bestRate(9), 4);
         Checks.same("rate stays", rates.count(6), 2);
@@ -117,6 +119,19 @@ public final class ForecastTest {
         Checks.throwsOne("4", IndexOutOfBoundsException.class, () -> front.cyclesUntil(4));
         FusionFront late = Checks.made("lanes 1;loop 30;repeat 2(nop;);branch back 2 times 99;branch back 1 times 99;mov;");
         Checks.same("never within 500", late.cyclesUntil(4), FusionFront.NONE);
+        String far = "lanes 1;loop 4;repeat 3(nop;add;branch back 2 times 70;);mov;";
+        FusionFront edge = Checks.made(far);
+        int at = 0;
+        while (edge.times(9) == 0 && at < 900) {
+            edge.run(1);
+            at++;
+        }
+        Checks.holds("behind 500 cycles", at > 501 && at < 900);
+        FusionFront again = Checks.made(far);
+        again.run(at - 501);
+        Checks.same("501 cycles", again.cyclesUntil(9), FusionFront.NONE);
+        again.run(1);
+        Checks.same("500 cycles", again.cyclesUntil(9), 500);
         // 60 instructions in one lane: the last one of the first turn in cycle 61.
         FusionFront line = Checks.made("lanes 1;repeat 6(repeat 9(nop;););nop;nop;nop;nop;nop;add;");
         Checks.same("the 60th", line.cyclesUntil(59), 61);

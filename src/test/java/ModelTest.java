@@ -1,6 +1,9 @@
 import java.lang.reflect.InvocationTargetException;
 import java.lang.reflect.Method;
+import java.lang.reflect.Modifier;
+import java.nio.charset.StandardCharsets;
 import java.util.ArrayList;
+import java.util.Arrays;
 import java.util.Comparator;
 import java.util.List;
 
@@ -39,7 +42,7 @@ public final class ModelTest {
     private static List<Method> face() {
         List<Method> face = new ArrayList<>();
         for (Method method : FusionFront.class.getDeclaredMethods()) {
-            boolean isPublic = java.lang.reflect.Modifier.isPublic(method.getModifiers());
+            boolean isPublic = Modifier.isPublic(method.getModifiers());
             if (isPublic && !method.getName().equals("parse")) {
                 face.add(method);
             }
@@ -144,17 +147,15 @@ public final class ModelTest {
 
     /** Lets both parse a text, and tells the number of instructions. */
     private static int parseBoth(String what, String text, FusionFront front, Model model) {
-        Checks.feed(front, text.getBytes(java.nio.charset.StandardCharsets.ISO_8859_1));
-        int length = 0;
-        for (int at = 0; at < text.length(); at += 20) {
-            int[] words = new int[5];
-            for (int index = 0; index < 20; index++) {
-                int sign = at + index < text.length() ? text.charAt(at + index) : 0;
-                words[index / 4] = words[index / 4] << 8 | sign;
-            }
-            length = model.feed(words[0], words[1], words[2], words[3], words[4]);
+        byte[] bytes = text.getBytes(StandardCharsets.ISO_8859_1);
+        front.truncate(0);
+        model.truncate(0);
+        for (int at = 0; at < bytes.length; at += 20) {
+            int[] words = Checks.words(bytes, at);
+            int length = front.feed(words[0], words[1], words[2], words[3], words[4]);
+            report(what + " feed", length, model.feed(words[0], words[1], words[2], words[3], words[4]));
         }
-        model.truncate(Math.min(text.length(), Math.max(length, 0)));
+        report(what + " truncate", front.truncate(bytes.length), model.truncate(bytes.length));
         int many = front.parse();
         report(what + " parse", many, model.parse());
         report(what + " code", front.errorCode(), model.errorCode());
@@ -181,9 +182,15 @@ public final class ModelTest {
         int many = parseBoth("run " + run + " " + text, text, front, model);
         StringBuilder calls = new StringBuilder(text);
         for (int call = 0; call < CALLS && reports < MOST_REPORTS; call++) {
+            if (oneIn(50)) {
+                String next = oneIn(2) ? text() : spoiled(text());
+                calls.append("\n  ").append(next);
+                many = Math.max(parseBoth("run " + run + " " + calls, next, front, model), 0);
+                many = Math.max(many, front.count(0));
+            }
             Method method = call % 3 == 0 ? changing(face) : face.get(draw(face.size()));
             Object[] values = values(method, Math.max(many, 1));
-            calls.append("\n  ").append(method.getName()).append(java.util.Arrays.toString(values));
+            calls.append("\n  ").append(method.getName()).append(Arrays.toString(values));
             Method due = Model.class.getMethod(method.getName(), method.getParameterTypes());
             Object got = answer(method, front, values);
             Object want = answer(due, model, values);
@@ -196,7 +203,8 @@ public final class ModelTest {
     }
 
     private static Method changing(List<Method> face) {
-        String name = new String[] {"run", "run", "run", "run", "runTo", "set", "stall", "redirect"}[draw(8)];
+        String name = new String[] {"run", "run", "run", "run", "runTo", "set", "stall", "redirect", "saveState", "restoreState",
+            "undo", "addRule"}[draw(12)];
         for (Method method : face) {
             if (method.getName().equals(name)) {
                 return method;

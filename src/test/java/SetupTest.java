@@ -148,6 +148,9 @@ public final class SetupTest {
         error("5;", 1, 0);
         error("nops;", 1, 0);
         error("no;", 1, 0);
+        error("xop;", 1, 0);
+        error("nopz;", 1, 0);
+        error("nop;z", 1, 4);
         error("lanes 004;", 1, 6);
         error("lanes 04 5;", 1, 9);
         error("long;", 1, 4);

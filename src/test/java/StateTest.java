@@ -1,0 +1,146 @@
+/** Promises 4, 35, 48 and 49: whatever goes on, a new text, undo and a restored state leave nothing of it behind. */
+public final class StateTest {
+    private static final String[] TEXTS = {
+        "lanes 4;loop 8;fuse cmp branch;mov;cmp;branch back 2 times 5;nop;jump back 4;",
+        "window 8;lanes 2;rate 1;ops 4;load;long add;store;div;load;load;long jump back 3;nop;",
+        "lanes 6;loop 30;queue 3;fuse add mov;fuse mov add;add;mov;long branch back 2 times 3;test;"
+            + "branch ahead 1 times 2;div;branch back 5 times 9;jump back 7;",
+        "window 32;lanes 5;rate 8;loop 4;nop;branch back 1 times 2;branch ahead 0 times 1;add;jump back 4;",
+        "loop 9;nop;add;jump back 2;",
+        "lanes 1;nop;add;mov;",
+        "",
+    };
+    private static final int CYCLES = 40;
+
+    private StateTest() {
+    }
+
+    public static void main(String[] args) {
+        for (String text : TEXTS) {
+            newTextBehind(text);
+            for (int cycles = 1; cycles <= CYCLES; cycles++) {
+                undoAndRestore(text, cycles);
+                forecastsComeTrue(text, cycles);
+            }
+        }
+        errorsBehindErrors();
+        undoneText();
+        Checks.end();
+    }
+
+    private static FusionFront ran(String text, int cycles) {
+        FusionFront front = Checks.made(text);
+        for (int cycle = 0; cycle < cycles; cycle++) {
+            front.run(1);
+        }
+        return front;
+    }
+
+    /** Compares all that can be asked but for the changes that can be undone. */
+    private static void same(String what, FusionFront got, FusionFront want) {
+        for (int index = 0; index < 24; index++) {
+            Checks.same(what + " count " + index, got.count(index), want.count(index));
+        }
+        for (int number = 0; number < Math.min(got.count(0), want.count(0)); number++) {
+            for (int index = 0; index < 8; index++) {
+                Checks.same(what + " instruction " + number, got.instruction(number, index), want.instruction(number, index));
+            }
+            Checks.same(what + " times " + number, got.times(number), want.times(number));
+            Checks.holds(what + " fuses " + number, got.fuses(number) == want.fuses(number));
+            Checks.holds(what + " loopable " + number, got.isLoopable(number) == want.isLoopable(number));
+        }
+        for (int index = 0; index < Math.min(got.count(19), want.count(19)); index++) {
+            Checks.same(what + " queue " + index, got.queueAt(index), want.queueAt(index));
+        }
+        for (int index = 0; index < 4; index++) {
+            Checks.same(what + " loop " + index, got.loop(index), want.loop(index));
+        }
+        for (int cause = 1; cause <= 8; cause++) {
+            Checks.same(what + " cause " + cause, got.bubbles(cause), want.bubbles(cause));
+        }
+        for (int back = 0; back < Math.min(100, Math.min(got.count(10), want.count(10))); back++) {
+            Checks.same(what + " decoded " + back, got.decoded(back), want.decoded(back));
+        }
+        Checks.holds(what + " cut", got.isCut() == want.isCut());
+        Checks.holds(what + " agrees", got.agrees() == want.agrees());
+    }
+
+    private static void sameCycles(String what, FusionFront got, FusionFront want) {
+        same(what, got, want);
+        for (int cycle = 1; cycle <= 12; cycle++) {
+            got.run(1);
+            want.run(1);
+            same(what + " then " + cycle, got, want);
+        }
+    }
+
+    private static void newTextBehind(String text) {
+        for (String before : TEXTS) {
+            for (int cycles = 0; cycles <= CYCLES; cycles += 3) {
+                FusionFront front = ran(before, cycles);
+                front.stall(cycles);
+                if (cycles % 2 == 0 && front.count(0) > 0) {
+                    front.redirect(0);
+                }
+                Checks.parse(front, text);
+                sameCycles(text + " behind " + before, front, Checks.made(text));
+            }
+        }
+    }
+
+    private static void undoAndRestore(String text, int cycles) {
+        FusionFront undone = ran(text, cycles);
+        int many = Math.min(cycles, 6);
+        Checks.same(text + " changes", undone.count(24), many);
+        undone.run(7);
+        undone.undo();
+        sameCycles(text + " undone " + cycles, undone, ran(text, cycles));
+        FusionFront restored = ran(text, cycles);
+        restored.saveState();
+        restored.run(1 + cycles);
+        restored.stall(3);
+        restored.restoreState();
+        sameCycles(text + " restored " + cycles, restored, ran(text, cycles));
+    }
+
+    private static void forecastsComeTrue(String text, int cycles) {
+        FusionFront front = ran(text, cycles);
+        FusionFront later = ran(text, cycles);
+        int many = later.run(cycles);
+        for (int cause = 1; cause <= 8; cause++) {
+            int due = later.bubbles(cause) - front.bubbles(cause);
+            Checks.same(text + " bubblesIn " + cycles, front.bubblesIn(cycles, cause), due);
+        }
+        if (many > 0) {
+            int to = front.cyclesTo(many);
+            Checks.holds(text + " cyclesTo " + cycles, to >= 1 && to <= cycles);
+            Checks.same(text + " runTo " + cycles, front.runTo(front.count(10) + many), to);
+        }
+    }
+
+    private static void errorsBehindErrors() {
+        FusionFront front = new FusionFront();
+        Checks.parse(front, "lanes 2;fuse nop nop;repeat 2(repeat 2(nop;");
+        Checks.same("lanes, rules and brackets are forgotten", Checks.parse(front, "lanes 2;fuse nop nop;nop;"), 1);
+        Checks.same("rules", front.count(8), 1);
+        Checks.same("none left", Checks.parse(front, "add;"), 1);
+        Checks.same("no rules", front.count(8), 0);
+        Checks.same("and none of the text before that", Checks.parse(front, "mov;"), 1);
+        Checks.same("again no rules", front.count(8), 0);
+        Checks.same("bracket", Checks.parse(front, ");"), FusionFront.NONE);
+        Checks.same("bracket code", front.errorCode(), 1);
+        Checks.same("bracket offset", front.errorOffset(), 0);
+    }
+
+    private static void undoneText() {
+        FusionFront front = Checks.made("nop;");
+        front.run(1);
+        front.saveState();
+        Checks.parse(front, "add;mov;");
+        Checks.throwsOne("undo", IllegalStateException.class, front::undo);
+        Checks.throwsOne("restore", IllegalStateException.class, front::restoreState);
+        front.run(3);
+        Checks.same("undo of the new text", front.undo(), 0);
+        same("as at first", front, Checks.made("add;mov;"));
+    }
+}
