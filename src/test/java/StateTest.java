@@ -25,6 +25,7 @@ public final class StateTest {
         }
         errorsBehindErrors();
         undoneText();
+        anotherLoop();
         Checks.end();
     }
 
@@ -142,5 +143,23 @@ public final class StateTest {
         front.run(3);
         Checks.same("undo of the new text", front.undo(), 0);
         same("as at first", front, Checks.made("add;mov;"));
+    }
+
+    /** Another loop has begun since the state was saved: the saved loop comes back whole. */
+    private static void anotherLoop() {
+        FusionFront front = Checks.made("lanes 2;loop 30;nop;jump back 1;store;add;jump back 2;");
+        front.run(20);
+        front.saveState();
+        front.redirect(2);
+        front.run(20);
+        int[] second = {2, 4, front.loop(2), 4};
+        int[] first = {0, 1, 0, 2};
+        for (int what = 0; what < 4; what++) {
+            Checks.same("second loop " + what, front.loop(what), second[what]);
+        }
+        front.restoreState();
+        for (int what = 0; what < 4; what++) {
+            Checks.same("saved loop " + what, front.loop(what), first[what]);
+        }
     }
 }
