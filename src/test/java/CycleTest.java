@@ -22,48 +22,34 @@ public final class CycleTest {
         Checks.end();
     }
 
-    /** The bubbles for causes 1 to 8. */
-    private static void bubbles(String what, FusionFront front, int... due) {
-        for (int cause = 1; cause <= 8; cause++) {
-            Checks.same(what + " cause " + cause, front.bubbles(cause), due[cause - 1]);
-        }
-    }
-
-    private static void queue(String what, FusionFront front, int... due) {
-        Checks.same(what + " queue", front.count(19), due.length);
-        for (int index = 0; index < due.length && index < front.count(19); index++) {
-            Checks.same(what + " queue " + index, front.queueAt(index), due[index]);
-        }
-    }
-
     private static void cutsAndRoom() {
         // Addresses 0, 4, 6, 10, 13: the store crosses from one window into the next one.
         FusionFront front = Checks.made("lanes 4;window 8;queue 4;ops 4;rate 1;load;add;store;div;nop;");
         front.run(1);
-        bubbles("first cycle", front, 4, 0, 0, 0, 0, 0, 0, 0);
-        queue("first cycle", front, 0, 1);
+        Checks.bubbles("first cycle", front, 4, 0, 0, 0, 0, 0, 0, 0);
+        Checks.queue("first cycle", front, 0, 1);
         Checks.holds("store is cut", front.isCut());
         Checks.same("one window", front.count(13), 1);
         Checks.same("one cut", front.count(14), 1);
         Checks.same("place", front.count(20), 2);
         Checks.same("second cycle", front.run(1), 2);
-        bubbles("second cycle", front, 4, 2, 0, 0, 0, 0, 0, 0);
-        queue("second cycle", front, 2, 3, 4);
+        Checks.bubbles("second cycle", front, 4, 2, 0, 0, 0, 0, 0, 0);
+        Checks.queue("second cycle", front, 2, 3, 4);
         Checks.fails("not cut any more", front.isCut());
         Checks.same("two windows", front.count(13), 2);
         Checks.same("the end", front.count(20), 5);
         Checks.same("third cycle", front.run(1), 1);
-        bubbles("third cycle", front, 4, 2, 0, 0, 3, 0, 0, 0);
+        Checks.bubbles("third cycle", front, 4, 2, 0, 0, 3, 0, 0, 0);
         Checks.same("store waits", front.count(18), 3);
         Checks.same("div does not fit", front.run(2), 0);
-        bubbles("fifth cycle", front, 4, 2, 0, 0, 3, 8, 0, 0);
+        Checks.bubbles("fifth cycle", front, 4, 2, 0, 0, 3, 8, 0, 0);
         Checks.same("div fits", front.run(1), 1);
-        bubbles("sixth cycle", front, 4, 2, 0, 0, 3, 11, 0, 0);
+        Checks.bubbles("sixth cycle", front, 4, 2, 0, 0, 3, 11, 0, 0);
         Checks.same("ops that wait", front.count(18), 4);
         Checks.same("nop", front.run(1), 1);
-        bubbles("seventh cycle", front, 4, 2, 0, 0, 3, 11, 0, 3);
+        Checks.bubbles("seventh cycle", front, 4, 2, 0, 0, 3, 11, 0, 3);
         Checks.same("nothing is left", front.run(5), 0);
-        bubbles("twelfth cycle", front, 4, 2, 0, 0, 3, 11, 0, 23);
+        Checks.bubbles("twelfth cycle", front, 4, 2, 0, 0, 3, 11, 0, 23);
         Checks.same("all is taken", front.count(18), 0);
         Checks.same("ops", front.count(11), 9);
         Checks.same("windows at the end", front.count(13), 2);
@@ -73,20 +59,20 @@ public final class CycleTest {
         FusionFront front = Checks.made("lanes 2;long nop;nop;");
         front.run(1);
         Checks.same("pause begins", front.count(22), 3);
-        queue("long", front, 0);
+        Checks.queue("long", front, 0);
         Checks.same("place behind it", front.count(20), 1);
         Checks.same("decoded", front.run(1), 1);
-        bubbles("second cycle", front, 2, 0, 1, 0, 0, 0, 0, 0);
+        Checks.bubbles("second cycle", front, 2, 0, 1, 0, 0, 0, 0, 0);
         Checks.same("pause of 2", front.count(22), 2);
         front.run(2);
-        bubbles("fourth cycle", front, 2, 0, 5, 0, 0, 0, 0, 0);
+        Checks.bubbles("fourth cycle", front, 2, 0, 5, 0, 0, 0, 0, 0);
         Checks.same("no pause", front.count(22), 0);
-        queue("nothing yet", front);
+        Checks.queue("nothing yet", front);
         front.run(1);
-        bubbles("fifth cycle", front, 4, 0, 5, 0, 0, 0, 0, 0);
-        queue("nop", front, 1);
+        Checks.bubbles("fifth cycle", front, 4, 0, 5, 0, 0, 0, 0, 0);
+        Checks.queue("nop", front, 1);
         Checks.same("last one", front.run(1), 1);
-        bubbles("sixth cycle", front, 4, 0, 5, 0, 0, 0, 0, 1);
+        Checks.bubbles("sixth cycle", front, 4, 0, 5, 0, 0, 0, 0, 1);
         Checks.same("one window", front.count(13), 1);
     }
 
@@ -103,7 +89,7 @@ public final class CycleTest {
         // The queue is full with the long one, and there is a pause all the same.
         front = Checks.made("lanes 1;queue 2;nop;long add;nop;");
         front.run(1);
-        queue("full", front, 0, 1);
+        Checks.queue("full", front, 0, 1);
         Checks.same("pause behind a full queue", front.count(22), 3);
     }
 
@@ -111,14 +97,14 @@ public final class CycleTest {
         // Addresses 0, 4, 8: the queue is full before the third one would be cut.
         FusionFront front = Checks.made("lanes 1;window 8;queue 2;load;mov;load;nop;");
         front.run(1);
-        queue("full", front, 0, 1);
+        Checks.queue("full", front, 0, 1);
         Checks.fails("not cut", front.isCut());
         Checks.same("no cut", front.count(14), 0);
         front.run(1);
-        queue("one has left", front, 1);
+        Checks.queue("one has left", front, 1);
         Checks.holds("cut when there is room", front.isCut());
         front.run(1);
-        queue("next window", front, 2, 3);
+        Checks.queue("next window", front, 2, 3);
         Checks.same("windows", front.count(13), 2);
         Checks.fails("cut has ended", front.isCut());
     }
@@ -130,11 +116,11 @@ public final class CycleTest {
         Checks.fails("not cut", front.isCut());
         Checks.same("one window", front.count(13), 1);
         front.run(1);
-        queue("to the jump", front, 2, 3);
+        Checks.queue("to the jump", front, 2, 3);
         Checks.same("place is the target", front.count(20), 5);
         front.run(1);
         Checks.same("the window of the target is read", front.count(13), 3);
-        queue("target", front, 5);
+        Checks.queue("target", front, 5);
         Checks.fails("the next one begins at the reach", front.isCut());
         Checks.same("taken", front.bubbles(7), 2);
     }
@@ -142,7 +128,7 @@ public final class CycleTest {
     private static void fusedUnits() {
         FusionFront front = Checks.made("lanes 4;fuse add mov;fuse mov store;add;mov;store;add;long mov;add;nop;");
         front.run(1);
-        queue("before the pause", front, 0, 1, 2, 3, 4);
+        Checks.queue("before the pause", front, 0, 1, 2, 3, 4);
         Checks.same("add with mov in one lane, store has two ops", front.run(1), 2);
         Checks.same("units", front.count(12), 1);
         Checks.same("ops of the unit", front.count(11), 1);
@@ -169,31 +155,31 @@ public final class CycleTest {
         // A pair is fused only if it is in the queue as a whole.
         front = Checks.made("queue 2;lanes 1;fuse mov add;nop;mov;add;");
         front.run(2);
-        queue("one behind the other", front, 1, 2);
+        Checks.queue("one behind the other", front, 1, 2);
         Checks.same("fused", front.run(1), 2);
     }
 
     private static void wrongPrediction() {
         FusionFront front = Checks.made("lanes 2;nop;branch ahead 1 times 1;add;mov;");
         front.run(1);
-        queue("predicted not taken", front, 0, 1, 2, 3);
+        Checks.queue("predicted not taken", front, 0, 1, 2, 3);
         Checks.same("both", front.run(1), 2);
         Checks.same("wrong", front.count(15), 1);
         Checks.same("pause", front.count(21), 4);
-        queue("only the target", front, 3);
+        Checks.queue("only the target", front, 3);
         Checks.same("the target's window was read again", front.count(13), 2);
         Checks.same("predicted taken now", front.instruction(1, 7), 1);
         front.run(3);
-        bubbles("in the pause", front, 2, 0, 0, 6, 0, 0, 0, 0);
+        Checks.bubbles("in the pause", front, 2, 0, 0, 6, 0, 0, 0, 0);
         Checks.same("pause of 1", front.count(21), 1);
         front.run(1);
         Checks.same("no pause", front.count(21), 0);
         Checks.same("mov", front.run(1), 1);
-        bubbles("behind it", front, 2, 0, 0, 8, 0, 0, 0, 1);
+        Checks.bubbles("behind it", front, 2, 0, 0, 8, 0, 0, 0, 1);
         // The lanes behind the wrong branch are unused for the pause already.
         front = Checks.made("lanes 6;branch ahead 0 times 1;nop;");
         front.run(2);
-        bubbles("ahead 0", front, 6, 0, 0, 5, 0, 0, 0, 0);
+        Checks.bubbles("ahead 0", front, 6, 0, 0, 5, 0, 0, 0, 0);
         Checks.same("taken to the next one", front.count(15), 1);
         // Predicted taken, but it goes on.
         front = Checks.made("lanes 6;nop;branch back 1 times 1;add;");
@@ -218,7 +204,7 @@ public final class CycleTest {
         Checks.same("its lane", front.bubbles(7), 1);
         front = Checks.made("lanes 6;nop;jump ahead 1;add;mov;");
         front.run(2);
-        bubbles("taken", front, 6, 0, 0, 0, 0, 0, 4, 0);
+        Checks.bubbles("taken", front, 6, 0, 0, 0, 0, 0, 4, 0);
         Checks.same("nothing wrong", front.count(15), 0);
         Checks.same("last", front.run(1), 1);
         Checks.same("mov", front.decoded(0), 3);
@@ -230,7 +216,7 @@ public final class CycleTest {
         front.run(1);
         Checks.same("place", front.count(20), 0);
         Checks.same("pause", front.count(22), 3);
-        queue("to the jump", front, 0, 1);
+        Checks.queue("to the jump", front, 0, 1);
         front.run(1);
         Checks.same("both", front.count(10), 2);
         front.run(40);
@@ -241,11 +227,11 @@ public final class CycleTest {
     private static void loopOfJump() {
         FusionFront front = Checks.made("lanes 4;loop 3;nop;add;jump back 2;");
         front.run(1);
-        queue("first turn", front, 0, 1, 2);
+        Checks.queue("first turn", front, 0, 1, 2);
         front.run(1);
         Checks.same("not yet", front.loop(0), FusionFront.NONE);
         Checks.same("no loop", front.count(16), 0);
-        queue("second turn", front, 0, 1, 2);
+        Checks.queue("second turn", front, 0, 1, 2);
         Checks.same("place", front.count(20), 0);
         front.run(1);
         Checks.same("loops", front.count(16), 1);
@@ -253,15 +239,15 @@ public final class CycleTest {
         Checks.same("last", front.loop(1), 2);
         Checks.same("next", front.loop(2), 0);
         Checks.same("ops", front.loop(3), 3);
-        queue("empty", front);
+        Checks.queue("empty", front);
         Checks.same("place as it was", front.count(20), 0);
-        bubbles("before the loop", front, 4, 0, 0, 0, 0, 0, 2, 0);
+        Checks.bubbles("before the loop", front, 4, 0, 0, 0, 0, 0, 2, 0);
         Checks.same("windows", front.count(13), 2);
         Checks.same("full lanes", front.run(1), 4);
         Checks.same("next is add", front.loop(2), 1);
         Checks.same("from the loop", front.count(17), 4);
         Checks.same("again", front.run(3), 12);
-        bubbles("in the loop", front, 4, 0, 0, 0, 0, 0, 2, 0);
+        Checks.bubbles("in the loop", front, 4, 0, 0, 0, 0, 0, 2, 0);
         Checks.same("no more windows", front.count(13), 2);
         Checks.same("redirect", front.redirect(1), 0);
         Checks.same("the loop ends", front.loop(0), FusionFront.NONE);
@@ -277,8 +263,8 @@ public final class CycleTest {
         Checks.same("loops", front.count(16), 1);
         Checks.same("in the loop, and out of it", front.run(1), 6);
         Checks.same("the loop ends", front.loop(2), FusionFront.NONE);
-        bubbles("behind the loop", front, 6, 0, 0, 28, 0, 0, 4, 0);
-        queue("fetched at once", front, 2);
+        Checks.bubbles("behind the loop", front, 6, 0, 0, 28, 0, 0, 4, 0);
+        Checks.queue("fetched at once", front, 2);
         Checks.same("load", front.run(1), 1);
         Checks.same("predicted not taken now", front.instruction(1, 7), 0);
         Checks.holds("agrees", front.agrees());
@@ -343,7 +329,7 @@ public final class CycleTest {
     private static void emptyProgram() {
         FusionFront front = new FusionFront();
         Checks.same("nothing", front.run(3), 0);
-        bubbles("empty", front, 0, 0, 0, 0, 0, 0, 0, 12);
+        Checks.bubbles("empty", front, 0, 0, 0, 0, 0, 0, 0, 12);
         Checks.same("no window", front.count(13), 0);
         Checks.same("the end", front.count(20), 0);
     }

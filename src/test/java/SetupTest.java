@@ -20,20 +20,6 @@ public final class SetupTest {
         Checks.end();
     }
 
-    private static void error(String text, int code, int offset) {
-        FusionFront front = new FusionFront();
-        Checks.same(text + " parse", Checks.parse(front, text), FusionFront.NONE);
-        Checks.same(text + " code", front.errorCode(), code);
-        Checks.same(text + " offset", front.errorOffset(), offset);
-    }
-
-    private static void fine(String text, int many) {
-        FusionFront front = new FusionFront();
-        Checks.same(text + " parse", Checks.parse(front, text), many);
-        Checks.same(text + " code", front.errorCode(), 0);
-        Checks.same(text + " offset", front.errorOffset(), FusionFront.NONE);
-    }
-
     private static void newObject() {
         FusionFront front = new FusionFront();
         int[] counts = {0, 0, 4, 16, 8, 16, 4, 0, 0, 0, 0, 0, 0, 0, 0, 0, 0, 0, 0, 0, 0, 0, 0, 0, 0};
@@ -125,40 +111,40 @@ public final class SetupTest {
     }
 
     private static void tokens() {
-        fine("", 0);
-        fine(" \n ", 0);
-        fine("nop;", 1);
-        fine("  nop\n;\nlong   add ; ", 2);
-        fine("lanes4;window08;queue\n02;long nop;", 1);
-        error("longnop;", 1, 0);
-        error("nop", 1, 3);
-        error("nop  ", 1, 5);
-        error("nop;;", 1, 4);
-        error(";", 1, 0);
-        error("Nop;", 1, 0);
-        error("nOp;", 1, 0);
-        error("nop\t;", 1, 3);
-        error("nop\r;", 1, 3);
-        error("nop" + (char) 0, 1, 3);
-        error("nop" + (char) 1 + ";", 1, 3);
-        error("nop" + (char) 255 + ";", 1, 3);
-        error("nop;(", 1, 4);
-        error("nop;)", 1, 4);
-        error("nop 1;", 1, 4);
-        error("5;", 1, 0);
-        error("nops;", 1, 0);
-        error("no;", 1, 0);
-        error("xop;", 1, 0);
-        error("nopz;", 1, 0);
-        error("nop;z", 1, 4);
-        error("lanes 004;", 1, 6);
-        error("lanes 04 5;", 1, 9);
-        error("long;", 1, 4);
-        error("long long nop;", 1, 5);
-        error("long lanes 4;", 1, 5);
-        error("long repeat 1(nop;);", 1, 5);
-        error("back 1;", 1, 0);
-        error("times 1;", 1, 0);
+        Checks.fine("", 0);
+        Checks.fine(" \n ", 0);
+        Checks.fine("nop;", 1);
+        Checks.fine("  nop\n;\nlong   add ; ", 2);
+        Checks.fine("lanes4;window08;queue\n02;long nop;", 1);
+        Checks.error("longnop;", 1, 0);
+        Checks.error("nop", 1, 3);
+        Checks.error("nop  ", 1, 5);
+        Checks.error("nop;;", 1, 4);
+        Checks.error(";", 1, 0);
+        Checks.error("Nop;", 1, 0);
+        Checks.error("nOp;", 1, 0);
+        Checks.error("nop\t;", 1, 3);
+        Checks.error("nop\r;", 1, 3);
+        Checks.error("nop" + (char) 0, 1, 3);
+        Checks.error("nop" + (char) 1 + ";", 1, 3);
+        Checks.error("nop" + (char) 255 + ";", 1, 3);
+        Checks.error("nop;(", 1, 4);
+        Checks.error("nop;)", 1, 4);
+        Checks.error("nop 1;", 1, 4);
+        Checks.error("5;", 1, 0);
+        Checks.error("nops;", 1, 0);
+        Checks.error("no;", 1, 0);
+        Checks.error("xop;", 1, 0);
+        Checks.error("nopz;", 1, 0);
+        Checks.error("nop;z", 1, 4);
+        Checks.error("lanes 004;", 1, 6);
+        Checks.error("lanes 04 5;", 1, 9);
+        Checks.error("long;", 1, 4);
+        Checks.error("long long nop;", 1, 5);
+        Checks.error("long lanes 4;", 1, 5);
+        Checks.error("long repeat 1(nop;);", 1, 5);
+        Checks.error("back 1;", 1, 0);
+        Checks.error("times 1;", 1, 0);
     }
 
     private static void settings() {
@@ -172,60 +158,60 @@ public final class SetupTest {
             front = Checks.made(word + " " + greatest[setting] + ";");
             Checks.same(word + " greatest", front.count(2 + setting), greatest[setting]);
             if (least[setting] > 0) {
-                error(word + " " + (least[setting] - 1) + ";", 2, word.length() + 1);
+                Checks.error(word + " " + (least[setting] - 1) + ";", 2, word.length() + 1);
             }
-            error(word + " " + (greatest[setting] + 1) + ";", 2, word.length() + 1);
-            error(word + " " + word, 1, word.length() + 1);
+            Checks.error(word + " " + (greatest[setting] + 1) + ";", 2, word.length() + 1);
+            Checks.error(word + " " + word, 1, word.length() + 1);
             String first = word + " " + greatest[setting] + ";";
-            error(first + "nop;" + word + " 0", 3, first.length() + 4);
-            error("repeat 1(" + word + " 99;);", 1, 9);
-            error(first + "repeat 2(" + word, 1, first.length() + 9);
+            Checks.error(first + "nop;" + word + " 0", 3, first.length() + 4);
+            Checks.error("repeat 1(" + word + " 99;);", 1, 9);
+            Checks.error(first + "repeat 2(" + word, 1, first.length() + 9);
         }
-        fine("window 16;lanes 1;queue 2;ops 4;rate 1;loop 0;", 0);
-        error("window 9;", 2, 7);
-        error("window 24;", 2, 7);
+        Checks.fine("window 16;lanes 1;queue 2;ops 4;rate 1;loop 0;", 0);
+        Checks.error("window 9;", 2, 7);
+        Checks.error("window 24;", 2, 7);
     }
 
     private static void rules() {
         String six = "fuse nop nop;fuse nop add;fuse nop mov;fuse nop load;fuse nop store;fuse nop branch;";
         FusionFront front = Checks.made(six);
         Checks.same("six rules", front.count(8), 6);
-        error(six + "fuse x", 4, six.length());
-        error("repeat 1(fuse nop nop;);", 1, 9);
-        error(six + "repeat 1(fuse", 1, six.length() + 9);
-        error("fuse jump x", 3, 5);
-        error("fuse branch nop;", 3, 5);
-        error("fuse lanes nop;", 1, 5);
-        error("fuse nop;", 1, 8);
-        error("fuse nop long nop;", 1, 9);
-        error("fuse nop nop nop;", 1, 13);
-        error("fuse nop add;fuse nop  add", 3, 23);
-        fine("fuse nop add;fuse add nop;fuse div jump;fuse div branch;", 0);
+        Checks.error(six + "fuse x", 4, six.length());
+        Checks.error("repeat 1(fuse nop nop;);", 1, 9);
+        Checks.error(six + "repeat 1(fuse", 1, six.length() + 9);
+        Checks.error("fuse jump x", 3, 5);
+        Checks.error("fuse branch nop;", 3, 5);
+        Checks.error("fuse lanes nop;", 1, 5);
+        Checks.error("fuse nop;", 1, 8);
+        Checks.error("fuse nop long nop;", 1, 9);
+        Checks.error("fuse nop nop nop;", 1, 13);
+        Checks.error("fuse nop add;fuse nop  add", 3, 23);
+        Checks.fine("fuse nop add;fuse add nop;fuse div jump;fuse div branch;", 0);
     }
 
     private static void repeats() {
-        fine("repeat 1();", 0);
-        fine("repeat 9(repeat 9(););", 0);
-        fine("repeat 3(nop;);", 3);
-        fine("repeat 2(nop;repeat 3(add;mov;);div;);store;", 17);
+        Checks.fine("repeat 1();", 0);
+        Checks.fine("repeat 9(repeat 9(););", 0);
+        Checks.fine("repeat 3(nop;);", 3);
+        Checks.fine("repeat 2(nop;repeat 3(add;mov;);div;);store;", 17);
         FusionFront front = Checks.made("repeat 2(nop;repeat 3(add;mov;);div;);store;");
         int[] kinds = {0, 1, 2, 1, 2, 1, 2, 7, 0, 1, 2, 1, 2, 1, 2, 7, 4};
         for (int number = 0; number < kinds.length; number++) {
             Checks.same("kind " + number, front.instruction(number, 0), kinds[number]);
         }
-        fine("repeat 2(repeat 2(nop;);repeat 2(nop;););repeat 2(repeat 1(nop;););", 10);
-        error("repeat 0(nop;);", 2, 7);
-        error("repeat 10(nop;);", 2, 7);
-        error("repeat 100(nop;);", 1, 7);
-        error("repeat (nop;);", 1, 7);
-        error("repeat 2 nop;", 1, 9);
-        error("repeat 2(nop;)", 1, 14);
-        error("repeat 2(nop;", 1, 13);
-        error("repeat 2(nop);", 1, 12);
-        error("repeat 2(nop;));", 1, 14);
-        error("repeat 2(2", 1, 9);
-        error("repeat 1(repeat 1(repeat 0", 4, 18);
-        error("repeat 1(repeat 1(lanes", 1, 18);
+        Checks.fine("repeat 2(repeat 2(nop;);repeat 2(nop;););repeat 2(repeat 1(nop;););", 10);
+        Checks.error("repeat 0(nop;);", 2, 7);
+        Checks.error("repeat 10(nop;);", 2, 7);
+        Checks.error("repeat 100(nop;);", 1, 7);
+        Checks.error("repeat (nop;);", 1, 7);
+        Checks.error("repeat 2 nop;", 1, 9);
+        Checks.error("repeat 2(nop;)", 1, 14);
+        Checks.error("repeat 2(nop;", 1, 13);
+        Checks.error("repeat 2(nop);", 1, 12);
+        Checks.error("repeat 2(nop;));", 1, 14);
+        Checks.error("repeat 2(2", 1, 9);
+        Checks.error("repeat 1(repeat 1(repeat 0", 4, 18);
+        Checks.error("repeat 1(repeat 1(lanes", 1, 18);
     }
 
     private static void targets() {
@@ -234,42 +220,42 @@ public final class SetupTest {
         for (int number = 0; number < to.length; number++) {
             Checks.same("target " + number, front.instruction(number, 4), to[number]);
         }
-        error("jump back 1;", 2, 10);
-        error("nop;jump back 0;", 2, 14);
-        error("nop;jump back 2;", 2, 14);
-        error("nop;jump back 001;", 1, 14);
-        error("nop;repeat 2(jump back 2;);", 2, 23);
-        fine("repeat 2(nop;);jump back 2;", 3);
-        error("repeat 2(nop;);jump back 3;", 2, 25);
-        fine("jump ahead 0;", 1);
-        error("jump ahead 10;", 2, 11);
-        error("jump;", 1, 4);
-        error("jump nop;", 1, 5);
-        error("jump ahead 0 times 3;", 1, 13);
-        error("branch ahead 0;", 1, 14);
-        error("branch ahead 0 back", 1, 15);
-        error("branch ahead 0 times 0;", 2, 21);
-        fine("branch ahead 0 times 1;branch ahead 9 times 99;", 2);
-        error("branch ahead 0 times 100;", 1, 21);
-        error("branch ahead 0 times x;", 1, 21);
+        Checks.error("jump back 1;", 2, 10);
+        Checks.error("nop;jump back 0;", 2, 14);
+        Checks.error("nop;jump back 2;", 2, 14);
+        Checks.error("nop;jump back 001;", 1, 14);
+        Checks.error("nop;repeat 2(jump back 2;);", 2, 23);
+        Checks.fine("repeat 2(nop;);jump back 2;", 3);
+        Checks.error("repeat 2(nop;);jump back 3;", 2, 25);
+        Checks.fine("jump ahead 0;", 1);
+        Checks.error("jump ahead 10;", 2, 11);
+        Checks.error("jump;", 1, 4);
+        Checks.error("jump nop;", 1, 5);
+        Checks.error("jump ahead 0 times 3;", 1, 13);
+        Checks.error("branch ahead 0;", 1, 14);
+        Checks.error("branch ahead 0 back", 1, 15);
+        Checks.error("branch ahead 0 times 0;", 2, 21);
+        Checks.fine("branch ahead 0 times 1;branch ahead 9 times 99;", 2);
+        Checks.error("branch ahead 0 times 100;", 1, 21);
+        Checks.error("branch ahead 0 times x;", 1, 21);
     }
 
     private static void tooMany() {
-        fine(REPEAT_60, 60);
-        error(REPEAT_60 + "nop;", 4, REPEAT_60.length());
-        error(REPEAT_60 + "long x", 4, REPEAT_60.length());
-        error(REPEAT_60 + "branch x", 4, REPEAT_60.length());
-        error(REPEAT_60 + "repeat 1(nop;);", 4, REPEAT_60.length() + 9);
-        error(REPEAT_60 + "x", 1, REPEAT_60.length());
-        fine(REPEAT_60 + "repeat 9();", 60);
-        error("nop;" + REPEAT_60, 4, 4 + REPEAT_60.length() - 2);
-        error("repeat 7(repeat 9(nop;););", 4, 24);
-        error("repeat 1(repeat 9(nop;add;nop;add;nop;add;nop;);", 4, 46);
+        Checks.fine(REPEAT_60, 60);
+        Checks.error(REPEAT_60 + "nop;", 4, REPEAT_60.length());
+        Checks.error(REPEAT_60 + "long x", 4, REPEAT_60.length());
+        Checks.error(REPEAT_60 + "branch x", 4, REPEAT_60.length());
+        Checks.error(REPEAT_60 + "repeat 1(nop;);", 4, REPEAT_60.length() + 9);
+        Checks.error(REPEAT_60 + "x", 1, REPEAT_60.length());
+        Checks.fine(REPEAT_60 + "repeat 9();", 60);
+        Checks.error("nop;" + REPEAT_60, 4, 4 + REPEAT_60.length() - 2);
+        Checks.error("repeat 7(repeat 9(nop;););", 4, 24);
+        Checks.error("repeat 1(repeat 9(nop;add;nop;add;nop;add;nop;);", 4, 46);
         // The copies that are still to come do not count: the 60th instruction may stand in the brackets.
         String most = "repeat 6(repeat 9(nop;););repeat 2(nop;nop;nop;nop;nop;nop;";
-        error(most, 1, most.length());
-        error(most + ");", 4, most.length());
-        error(most + "add", 4, most.length());
-        fine("repeat 6(repeat 9(nop;););repeat 2(nop;nop;nop;);", 60);
+        Checks.error(most, 1, most.length());
+        Checks.error(most + ");", 4, most.length());
+        Checks.error(most + "add", 4, most.length());
+        Checks.fine("repeat 6(repeat 9(nop;););repeat 2(nop;nop;nop;);", 60);
     }
 }

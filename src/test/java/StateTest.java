@@ -37,44 +37,6 @@ public final class StateTest {
         return front;
     }
 
-    /** Compares all that can be asked but for the changes that can be undone. */
-    private static void same(String what, FusionFront got, FusionFront want) {
-        for (int index = 0; index < 24; index++) {
-            Checks.same(what + " count " + index, got.count(index), want.count(index));
-        }
-        for (int number = 0; number < Math.min(got.count(0), want.count(0)); number++) {
-            for (int index = 0; index < 8; index++) {
-                Checks.same(what + " instruction " + number, got.instruction(number, index), want.instruction(number, index));
-            }
-            Checks.same(what + " times " + number, got.times(number), want.times(number));
-            Checks.holds(what + " fuses " + number, got.fuses(number) == want.fuses(number));
-            Checks.holds(what + " loopable " + number, got.isLoopable(number) == want.isLoopable(number));
-        }
-        for (int index = 0; index < Math.min(got.count(19), want.count(19)); index++) {
-            Checks.same(what + " queue " + index, got.queueAt(index), want.queueAt(index));
-        }
-        for (int index = 0; index < 4; index++) {
-            Checks.same(what + " loop " + index, got.loop(index), want.loop(index));
-        }
-        for (int cause = 1; cause <= 8; cause++) {
-            Checks.same(what + " cause " + cause, got.bubbles(cause), want.bubbles(cause));
-        }
-        for (int back = 0; back < Math.min(100, Math.min(got.count(10), want.count(10))); back++) {
-            Checks.same(what + " decoded " + back, got.decoded(back), want.decoded(back));
-        }
-        Checks.holds(what + " cut", got.isCut() == want.isCut());
-        Checks.holds(what + " agrees", got.agrees() == want.agrees());
-    }
-
-    private static void sameCycles(String what, FusionFront got, FusionFront want) {
-        same(what, got, want);
-        for (int cycle = 1; cycle <= 12; cycle++) {
-            got.run(1);
-            want.run(1);
-            same(what + " then " + cycle, got, want);
-        }
-    }
-
     private static void newTextBehind(String text) {
         for (String before : TEXTS) {
             for (int cycles = 0; cycles <= CYCLES; cycles += 3) {
@@ -84,7 +46,7 @@ public final class StateTest {
                     front.redirect(0);
                 }
                 Checks.parse(front, text);
-                sameCycles(text + " behind " + before, front, Checks.made(text));
+                Twins.sameCycles(text + " behind " + before, front, Checks.made(text));
             }
         }
     }
@@ -95,13 +57,13 @@ public final class StateTest {
         Checks.same(text + " changes", undone.count(24), many);
         undone.run(7);
         undone.undo();
-        sameCycles(text + " undone " + cycles, undone, ran(text, cycles));
+        Twins.sameCycles(text + " undone " + cycles, undone, ran(text, cycles));
         FusionFront restored = ran(text, cycles);
         restored.saveState();
         restored.run(1 + cycles);
         restored.stall(3);
         restored.restoreState();
-        sameCycles(text + " restored " + cycles, restored, ran(text, cycles));
+        Twins.sameCycles(text + " restored " + cycles, restored, ran(text, cycles));
     }
 
     private static void forecastsComeTrue(String text, int cycles) {
@@ -142,7 +104,7 @@ public final class StateTest {
         Checks.throwsOne("restore", IllegalStateException.class, front::restoreState);
         front.run(3);
         Checks.same("undo of the new text", front.undo(), 0);
-        same("as at first", front, Checks.made("add;mov;"));
+        Twins.same("as at first", front, Checks.made("add;mov;"));
     }
 
     /** Another loop has begun since the state was saved: the saved loop comes back whole. */
