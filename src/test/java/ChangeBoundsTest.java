@@ -137,7 +137,8 @@ public final class ChangeBoundsTest {
     }
 
     private static void runs() {
-        Checks.sentence("`cycles`: 1 to 500");
+        Checks.sentence("`cycles`: 1 to 500 Returns the number of instructions that are decoded in them. Throws "
+                + "`IllegalArgumentException` if cycles is out of range");
         FusionFront front = Checks.made("lanes 1;loop 2;nop;jump back 1;");
         Checks.throwsOne("0", NO_ARGUMENT, () -> front.run(0));
         Checks.throwsOne("-1", NO_ARGUMENT, () -> front.run(-1));
@@ -145,7 +146,6 @@ public final class ChangeBoundsTest {
         for (int far : FAR) {
             Checks.throwsOne("run " + far, NO_ARGUMENT, () -> front.run(far));
         }
-        Checks.sentence("Returns the number of instructions that are decoded in them.");
         Checks.same("1", front.run(1), 0);
         Checks.same("1 more", front.run(1), 1);
         Checks.same("500", front.run(500), 500);
@@ -155,7 +155,8 @@ public final class ChangeBoundsTest {
     }
 
     private static void runsTo() {
-        Checks.sentence("`many`: 0 to 9999");
+        Checks.sentence("`many`: 0 to 9999 Returns the number of cycles that passed. Throws "
+                + "`IllegalArgumentException` if many is out of range");
         FusionFront front = Checks.made("lanes 1;loop 2;nop;jump back 1;");
         Checks.throwsOne("-1", NO_ARGUMENT, () -> front.runTo(-1));
         Checks.throwsOne("10000", NO_ARGUMENT, () -> front.runTo(10000));
@@ -207,7 +208,8 @@ public final class ChangeBoundsTest {
         Checks.same("one", front.stall(0), 1);
         Checks.same("0 in place of it", front.count(23), 0);
         Checks.same("none again", front.stall(99), 0);
-        Checks.sentence("`cycles`: 0 to 99");
+        Checks.sentence("`cycles`: 0 to 99 Returns the cycles of the earlier stall that were left. Throws "
+                + "`IllegalArgumentException` if cycles is out of range");
         Checks.throwsOne("-1", NO_ARGUMENT, () -> front.stall(-1));
         Checks.throwsOne("100", NO_ARGUMENT, () -> front.stall(100));
         for (int far : FAR) {
@@ -232,7 +234,8 @@ public final class ChangeBoundsTest {
         for (int far : FAR) {
             Checks.throwsOne("set " + far, NO_ARGUMENT, () -> Checks.made("nop;").set(far, 4));
         }
-        Checks.sentence("`value`: the new value, as in section 1");
+        Checks.sentence("`value`: the new value, as in section 1 Returns the value before. Throws "
+                + "`IllegalArgumentException` if what is another number, or value is out of range");
         int[][] rows = {{2, 1, 6}, {6, 1, 8}, {7, 0, 30}};
         for (int[] row : rows) {
             FusionFront front = Checks.made("nop;");
@@ -271,7 +274,8 @@ public final class ChangeBoundsTest {
     }
 
     private static void addedRules() {
-        Checks.sentence("`first`: the first kind, 0 to 7 - `second`: the second kind, 0 to 9 Returns number of the rule.");
+        Checks.sentence("`first`: the first kind, 0 to 7 - `second`: the second kind, 0 to 9 Returns number of the rule. "
+                + "Throws `IllegalArgumentException` if first or second is out of range");
         for (int first = -1; first <= 8; first++) {
             for (int second = -1; second <= 10; second++) {
                 FusionFront front = new FusionFront();
@@ -309,6 +313,9 @@ public final class ChangeBoundsTest {
     }
 
     private static void removedRules() {
+        Checks.sentence("Returns 10 * first kind + second kind.");
+        Checks.same("the least one", Checks.made("fuse nop nop;").removeRule(0), 0);
+        Checks.same("the greatest one", Checks.made("fuse div branch;").removeRule(0), 79);
         Checks.sentence("Removes a rule of fusion; the numbers of the later ones become 1 less.");
         String six = "fuse nop add;fuse add nop;fuse mov div;fuse div mov;fuse div jump;fuse div branch;";
         int[] kinds = {1, 10, 27, 72, 78, 79};

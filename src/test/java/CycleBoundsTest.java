@@ -5,6 +5,7 @@ public final class CycleBoundsTest {
 
     public static void main(String[] args) {
         addresses();
+        lengthsAndOps();
         turns();
         predictions();
         atFirst();
@@ -16,6 +17,7 @@ public final class CycleBoundsTest {
         pairsInWindows();
         longPairs();
         opsOfPairs();
+        stoppedLanes();
         laterLanes();
         fullOps();
         endsOfLoops();
@@ -33,6 +35,8 @@ public final class CycleBoundsTest {
         lastBytes();
         longMarked();
         takenMarked();
+        placeIsSet();
+        nextByNumber();
         Checks.end();
     }
 
@@ -59,6 +63,21 @@ public final class CycleBoundsTest {
         Checks.sentence("\"long\" makes an instruction one byte longer.");
         Checks.same("shortest", Checks.made("long nop;").instruction(0, 2), 2);
         Checks.same("longest", front.instruction(0, 2), 5);
+    }
+
+    private static void lengthsAndOps() {
+        Checks.sentence("Their lengths in bytes are 1, 2, 3, 4, 4, 3, 2, 3, 2, 2; their ops are 1, 1, 1, 1, 2, 1, 1, 4, "
+                + "1, 1.");
+        String kinds = "nop;add;mov;load;store;cmp;test;div;jump ahead 0;branch ahead 0 times 1;";
+        FusionFront front = Checks.made(kinds + "long " + kinds.replace(";", ";long ") + "nop;");
+        int[] lengths = {1, 2, 3, 4, 4, 3, 2, 3, 2, 2};
+        int[] ops = {1, 1, 1, 1, 2, 1, 1, 4, 1, 1};
+        for (int number = 0; number < 20; number++) {
+            Checks.same("kind of " + number, front.instruction(number, 0), number % 10);
+            Checks.same("length of " + number, front.instruction(number, 2), lengths[number % 10] + number / 10);
+            Checks.same("ops of " + number, front.instruction(number, 3), ops[number % 10]);
+        }
+        Checks.same("one of each kind", front.ofKind(9, false), 2);
     }
 
     private static void turns() {
@@ -232,6 +251,16 @@ public final class CycleBoundsTest {
         full = ran("lanes 2;queue 3;fuse add mov;nop;add;mov;", 2);
         Checks.same("the queue ends behind mov", full.count(12), 1);
         Checks.same("three in two lanes", full.count(10), 3);
+        // Addresses 5 and 7: the jump is cut, so that add is alone in the queue behind a pair that was fused.
+        FusionFront alone = Checks.made("window 8;lanes 2;ops 4;rate 1;fuse add jump;repeat 5(nop;);add;jump back 1;");
+        alone.run(7);
+        alone.stall(4);
+        alone.run(8);
+        Checks.queue("add alone", alone, 5);
+        int before = alone.count(12);
+        Checks.holds("pairs were fused", before > 2);
+        Checks.same("add is decoded alone", alone.run(1), 1);
+        Checks.same("no pair", alone.count(12), before);
         // The next one of the queue is not the next one by number.
         FusionFront other = ran("fuse mov add;mov;jump ahead 1;nop;add;", 9);
         Checks.same("jump between them", other.count(12), 0);
@@ -300,6 +329,19 @@ public final class CycleBoundsTest {
             Checks.same(texts[index] + " ops", front.count(11), due[index]);
             Checks.same(texts[index] + " wait", front.count(18), due[index]);
             Checks.same(texts[index] + " decoded", front.count(10), 2);
+        }
+    }
+
+    private static void stoppedLanes() {
+        Checks.sentence("When decoding stops at a lane, this lane and all lanes behind it are unused, for the cause of "
+                + "the stop.");
+        for (int lanes = 1; lanes <= 6; lanes++) {
+            for (int many = 0; many <= 7; many++) {
+                FusionFront front = ran("lanes " + lanes + ";" + "nop;".repeat(many), 1);
+                int unused = Math.max(lanes - many, 0);
+                Checks.same(many + " for " + lanes, front.nextBubbles(8), unused);
+                Checks.same(many + " in " + lanes, front.run(1), lanes - unused);
+            }
         }
     }
 
@@ -701,5 +743,55 @@ public final class CycleBoundsTest {
         Checks.queue("one jump a cycle", front, 0);
         front.run(1);
         Checks.queue("the next one", front, 1);
+    }
+
+    private static void placeIsSet() {
+        Checks.sentence("The place is set by a wrong prediction, by a jump or branch that is predicted taken, by the end "
+                + "of a loop, and by redirect.");
+        // All is in one window: another one is read only when the place was set.
+        FusionFront wrong = ran("lanes 1;branch ahead 0 times 1;nop;", 1);
+        Checks.same("one", wrong.count(13), 1);
+        wrong.run(1);
+        Checks.same("read again behind a wrong prediction", wrong.count(13), 2);
+        wrong.run(9);
+        Checks.same("not once more", wrong.count(13), 2);
+        FusionFront jump = ran("lanes 1;jump ahead 0;nop;", 2);
+        Checks.same("read again behind a jump", jump.count(13), 2);
+        jump.run(9);
+        Checks.same("not once more", jump.count(13), 2);
+        FusionFront loop = ran("lanes 6;loop 2;add;branch back 1 times 4;load;", 7);
+        int windows = loop.count(13);
+        Checks.same("the loop ends", loop.run(1), 6);
+        Checks.same("read again behind a loop", loop.count(13), windows + 1);
+        loop.run(9);
+        Checks.same("not once more", loop.count(13), windows + 1);
+        FusionFront redirected = ran("lanes 1;nop;nop;", 1);
+        redirected.redirect(1);
+        redirected.run(1);
+        Checks.same("read again behind redirect", redirected.count(13), 2);
+        redirected.run(9);
+        Checks.same("not once more", redirected.count(13), 2);
+        FusionFront none = ran("lanes 1;queue 2;branch ahead 0 times 1;repeat 9(nop;);", 1);
+        none.redirect(1);
+        none.run(30);
+        Checks.same("the other ones are marked one behind the other", none.count(13), 2);
+    }
+
+    private static void nextByNumber() {
+        Checks.sentence("The place becomes the next instruction by number each time but by the last of these.");
+        // A full queue, a cut one, one at the reach and a long one: the place is the first one that is not marked.
+        Checks.same("full", ran("lanes 1;queue 2;nop;nop;nop;", 1).count(20), 2);
+        Checks.same("cut", ran("window 8;mov;mov;mov;", 1).count(20), 2);
+        Checks.same("at the reach", ran("window 8;load;load;mov;", 1).count(20), 2);
+        Checks.same("long", ran("nop;long nop;nop;", 1).count(20), 2);
+        Checks.same("long, not taken", ran("nop;long branch back 1 times 1;nop;", 1).count(20), 2);
+        Checks.same("taken", ran("nop;jump ahead 1;nop;nop;", 1).count(20), 3);
+        // Long and taken: promise 24 asks that only a redirect leads elsewhere than a plain decoder goes.
+        FusionFront both = ran("lanes 1;nop;long jump ahead 1;nop;add;nop;", 1);
+        Checks.same("long and taken", both.count(20), 3);
+        Checks.same("a length pause", both.count(22), 3);
+        both.run(20);
+        Checks.same("what is skipped", both.times(2), 0);
+        Checks.holds("agrees", both.agrees());
     }
 }

@@ -26,6 +26,7 @@ public final class FaceBoundsTest {
         loops();
         cuts();
         causes();
+        eachCauseMost();
         latest();
         plainDecoder();
         agreement();
@@ -345,6 +346,26 @@ public final class FaceBoundsTest {
         Checks.same("4 for 1, 4 for 4", tie.mainCause(), 1);
         tie.run(1);
         Checks.same("4 for 1, 8 for 4", tie.mainCause(), 4);
+    }
+
+    /** Cycle 1 leaves one lane unused for cause 1, or two; then each cause is ahead by one, or there is a tie. */
+    private static void eachCauseMost() {
+        Checks.sentence("Returns the cause, the smallest one on a tie; NONE if no lane stayed unused.");
+        String[] texts = {"window 8;mov;mov;mov;", "long nop;nop;", "branch ahead 0 times 1;nop;", "nop;store;",
+            "ops 4;nop;nop;nop;nop;nop;nop;", "jump ahead 0;nop;", "nop;"};
+        int[] used = {2, 1, 1, 1, 4, 1, 1};
+        for (int index = 0; index < texts.length; index++) {
+            int cause = index + 2;
+            for (int first = 1; first <= 2; first++) {
+                FusionFront front = Checks.made("lanes " + first + ";" + texts[index]);
+                front.run(1);
+                front.set(2, used[index] + 2);
+                Checks.same(texts[index], front.run(1), used[index]);
+                Checks.same("lanes for 1", front.bubbles(1), first);
+                Checks.same("lanes for " + cause, front.bubbles(cause), 2);
+                Checks.same(texts[index] + " behind " + first, front.mainCause(), first == 1 ? cause : 1);
+            }
+        }
     }
 
     private static void latest() {

@@ -83,6 +83,7 @@ public final class ForecastBoundsTest {
         Checks.sentence("`cause`: 1 to 8");
         FusionFront front = Checks.made("lanes 6;nop;");
         range("nextBubbles", 1, 8, front::nextBubbles);
+        Checks.sentence("Throws `IllegalArgumentException` if cycles or cause is out of range");
         range("bubblesIn", 1, 8, cause -> front.bubblesIn(1, cause));
         Checks.throwsOne("both", NO_ARGUMENT, () -> front.bubblesIn(0, 0));
         Checks.sentence("Returns the number of lanes that stay unused for this cause.");
@@ -101,7 +102,7 @@ public final class ForecastBoundsTest {
     }
 
     private static void cycles() {
-        Checks.sentence("`cycles`: 1 to 500");
+        Checks.sentence("Throws `IllegalArgumentException` if cycles is out of range");
         for (String text : TEXTS) {
             FusionFront front = ran(text, 3);
             range("bubblesIn " + text, 1, 500, cycles -> front.bubblesIn(cycles, 8));

@@ -60,6 +60,11 @@ public final class OutputBoundsTest {
         line(far, 19, "95 long store");
         line(far, 20, "100 long store");
         line(far, 40, "200 long store");
+        FusionFront digits = Checks.made("repeat 6(repeat 6(long store;););repeat 6(mov;);nop;nop;nop;");
+        line(digits, 41, "195 mov");
+        line(digits, 42, "198 nop");
+        line(digits, 43, "199 nop");
+        line(digits, 44, "200 nop");
     }
 
     private static void plusSigns() {
